@@ -45,7 +45,7 @@ public final class WordFoundry {
     private static final int NAME = 2;
     private static final int NOTHING = 3;
 
-    /** Stands for no entry, no name, and no place to jump to. */
+    /** Stands for no entry, no name, and no mark. */
     private static final int NONE = -1;
 
     /** The core words that are not immediate, and what each needs and gives; 'x' tells that it has no effect. */
@@ -207,7 +207,7 @@ public final class WordFoundry {
         if (!machine.dictionary.has(entry)) {
             throw new IndexOutOfBoundsException("there is no such entry");
         }
-        return machine.dictionary.kinds[entry];
+        return (char) machine.dictionary.kinds[entry];
     }
 
     public boolean isImmediate(int entry) throws IndexOutOfBoundsException {
@@ -299,11 +299,23 @@ public final class WordFoundry {
         Dictionary dictionary = machine.dictionary;
         effects.measureThrough(dictionary.size - 1);
         for (int entry = 0; entry < dictionary.size; entry++) {
-            if (!dictionary.immediates[entry] && !check.holds(machine, entry, effects)) {
+            if (dictionary.immediates[entry]) {
+                continue;
+            }
+            check.prepare(machine);
+            int fault = check.frames.drive(check.frames.begin(entry));
+            int recursionFault = check.recursion.runEntry(entry, 0);
+            if (!check.agrees(fault, recursionFault) || fault == FINE && !grewAsTold(entry)) {
                 return false;
             }
         }
         return true;
+    }
+
+    /** Whether the first stack is as much higher behind a checked run as the effect of its entry tells. */
+    private boolean grewAsTold(int entry) {
+        int grown = check.framed.first.size - machine.first.size;
+        return !effects.known[entry] || grown == effects.gives[entry] - effects.needs[entry];
     }
 
     /** The words of the line, and the place up to which they were read. */
@@ -460,7 +472,7 @@ public final class WordFoundry {
     private static final class Dictionary {
         private final int[] names = new int[ENTRIES];
         private final int[] vocabularies = new int[ENTRIES];
-        private final char[] kinds = new char[ENTRIES];
+        private final int[] kinds = new int[ENTRIES];
         private final boolean[] immediates = new boolean[ENTRIES];
         /** The address, the value, the entry that a deferred one has, or here as a marker was made. */
         private final int[] values = new int[ENTRIES];
@@ -468,7 +480,7 @@ public final class WordFoundry {
         private final int[] doingEntries = new int[ENTRIES];
         private final int[] doingStarts = new int[ENTRIES];
         private final int[] opCounts = new int[ENTRIES];
-        private final char[] opKinds = new char[ENTRIES * OPS];
+        private final int[] opKinds = new int[ENTRIES * OPS];
         private final int[] opNumbers = new int[ENTRIES * OPS];
         private int size;
         private int newVocabulary;
@@ -483,7 +495,7 @@ public final class WordFoundry {
         }
 
         private char opKind(int entry, int index) {
-            return hasOp(entry, index) ? opKinds[entry * OPS + index] : 'x';
+            return hasOp(entry, index) ? (char) opKinds[entry * OPS + index] : 'x';
         }
 
         private int opValue(int entry, int index) {
@@ -506,16 +518,15 @@ public final class WordFoundry {
             return FINE;
         }
 
-        private int addWord(Draft draft) {
-            int fault = add(':', draft.name, draft.vocabulary, 0);
-            if (fault != FINE) {
-                return fault;
-            }
+        /** The latest entry gets the ops of the word that was being made. */
+        private void takeOps(Draft draft) {
             int entry = size - 1;
+            if (entry < 0) {
+                return;
+            }
             opCounts[entry] = draft.opCount;
             System.arraycopy(draft.opKinds, 0, opKinds, entry * OPS, draft.opCount);
             System.arraycopy(draft.opNumbers, 0, opNumbers, entry * OPS, draft.opCount);
-            return FINE;
         }
 
         private int search(int name) {
@@ -553,12 +564,12 @@ public final class WordFoundry {
             System.arraycopy(other.names, 0, names, 0, size);
             System.arraycopy(other.vocabularies, 0, vocabularies, 0, size);
             System.arraycopy(other.kinds, 0, kinds, 0, size);
-            System.arraycopy(other.immediates, 0, immediates, 0, size);
             System.arraycopy(other.values, 0, values, 0, size);
             System.arraycopy(other.doingEntries, 0, doingEntries, 0, size);
             System.arraycopy(other.doingStarts, 0, doingStarts, 0, size);
             System.arraycopy(other.opCounts, 0, opCounts, 0, size);
             for (int entry = 0; entry < size; entry++) {
+                immediates[entry] = other.immediates[entry];
                 System.arraycopy(other.opKinds, entry * OPS, opKinds, entry * OPS, opCounts[entry]);
                 System.arraycopy(other.opNumbers, entry * OPS, opNumbers, entry * OPS, opCounts[entry]);
             }
@@ -567,11 +578,11 @@ public final class WordFoundry {
 
     /** The word that is being made, with the pile of marks that tell what is open in it. */
     private static final class Draft {
-        private final char[] opKinds = new char[OPS];
+        private final int[] opKinds = new int[OPS];
         private final int[] opNumbers = new int[OPS];
         /** For an 'l', the op of the 'D' to which it belongs. */
         private final int[] owners = new int[OPS];
-        private final char[] markKinds = new char[MARKS];
+        private final int[] markKinds = new int[MARKS];
         private final int[] markPlaces = new int[MARKS];
         /** How many marks of one kind and place lie there one on the other. */
         private final int[] markCounts = new int[MARKS];
@@ -609,36 +620,8 @@ public final class WordFoundry {
             return FINE;
         }
 
-        /** Does an immediate core word that opens or closes something. */
-        private int structure(char core) {
-            switch (core) {
-                case '?':
-                    return openForward();
-                case '~':
-                    return landForward();
-                case '|':
-                    return openOther();
-                case 'b':
-                    return putMark('b', opCount);
-                case 'u':
-                    return closeBack();
-                case 'w':
-                    return openInside();
-                case 'g':
-                    return closeBoth();
-                case 'D':
-                    return openCounted();
-                case 'L':
-                    return closeCounted();
-                case 'l':
-                    return leaveCounted();
-                default:
-                    return FINE;
-            }
-        }
-
-        private char uppermost() {
-            return markRows > 0 ? markKinds[markRows - 1] : ' ';
+        private int uppermost() {
+            return markRows > 0 ? markKinds[markRows - 1] : NONE;
         }
 
         private int uppermostPlace() {
@@ -646,8 +629,9 @@ public final class WordFoundry {
         }
 
         private int putMark(char kind, int place) {
-            if (kind == 'b' && uppermost() == 'b' && uppermostPlace() == place) {
-                markCounts[markRows - 1]++;
+            int row = markRows - 1;
+            if (row >= 0 && kind == 'b' && markKinds[row] == 'b' && markPlaces[row] == place) {
+                markCounts[row]++;
                 return FINE;
             }
             if (markRows >= MARKS) {
@@ -802,7 +786,7 @@ public final class WordFoundry {
         /** Set if the steps ran out, which is not caught. */
         private boolean exhausted;
         private boolean compiling;
-        /** The op to which the latest op leads, or NONE. */
+        /** The op that is next behind the latest one that may jump. */
         private int target;
 
         private Machine(int steps) {
@@ -878,27 +862,35 @@ public final class WordFoundry {
             return first.isLike(other.first) && second.isLike(other.second) && printed.isLike(other.printed);
         }
 
-        /** Does an op that runs no entry and ends no word; target tells whether it jumps. */
+        /** Does an op that only puts a number, or compiles something. */
         private int doOp(char kind, int number) {
-            target = NONE;
             switch (kind) {
                 case 'n':
                     return first.put(number);
-                case 'w':
-                    return core((char) number);
                 case 'p':
                     return draft.emit('c', number);
                 case 'q':
                     return draft.emit('w', number);
-                case 'M':
-                    return immediate((char) number);
+                case 'D':
+                    return beginCounting();
+                default:
+                    return FINE;
+            }
+        }
+
+        /** Does an op that may jump; target is the op that is next then. */
+        private int jump(char kind, int number, int next) {
+            target = next;
+            switch (kind) {
                 case 'j':
                     target = number;
                     return FINE;
                 case 'z':
-                    return jumpOnZero(number);
-                case 'D':
-                    return beginCounting();
+                    if (!first.holds(1)) {
+                        return STACK_SHORT;
+                    }
+                    target = first.take() == 0 ? number : next;
+                    return FINE;
                 case 'L':
                     return countOn(number);
                 case 'l':
@@ -906,16 +898,6 @@ public final class WordFoundry {
                 default:
                     return FINE;
             }
-        }
-
-        private int jumpOnZero(int place) {
-            if (!first.holds(1)) {
-                return STACK_SHORT;
-            }
-            if (first.take() == 0) {
-                target = place;
-            }
-            return FINE;
         }
 
         private int beginCounting() {
@@ -989,8 +971,9 @@ public final class WordFoundry {
                 case 'f':
                 case 'm':
                 case ':':
-                case 'k':
                     return define(word);
+                case 'k':
+                    return redirect();
                 default:
                     return govern(word);
             }
@@ -1092,7 +1075,7 @@ public final class WordFoundry {
             }
         }
 
-        /** Does a word that takes the next word of the line as its name. */
+        /** Does a word that makes an entry, or begins to, with the next word of the line as its name. */
         private int define(char word) {
             int newName = line.takeName();
             if (newName == NONE) {
@@ -1107,8 +1090,6 @@ public final class WordFoundry {
                     return dictionary.add('f', newName, dictionary.newVocabulary, NONE);
                 case 'm':
                     return dictionary.add('m', newName, dictionary.newVocabulary, used);
-                case 'k':
-                    return redirect(dictionary.search(newName), first.take());
                 default:
                     if (draft.making) {
                         return MAKING_ALREADY;
@@ -1119,7 +1100,13 @@ public final class WordFoundry {
             }
         }
 
-        private int redirect(int deferred, int entry) {
+        private int redirect() {
+            int sought = line.takeName();
+            if (sought == NONE) {
+                return NO_NAME;
+            }
+            int deferred = dictionary.search(sought);
+            int entry = first.take();
             if (!dictionary.has(deferred)) {
                 return NOT_FOUND;
             }
@@ -1175,6 +1162,34 @@ public final class WordFoundry {
                 return NOT_MAKING;
             }
             switch (word) {
+                case '?':
+                    return draft.openForward();
+                case '~':
+                    return draft.landForward();
+                case '|':
+                    return draft.openOther();
+                case 'b':
+                    return draft.putMark('b', draft.opCount);
+                case 'u':
+                    return draft.closeBack();
+                case 'w':
+                    return draft.openInside();
+                case 'g':
+                    return draft.closeBoth();
+                case 'D':
+                    return draft.openCounted();
+                case 'L':
+                    return draft.closeCounted();
+                case 'l':
+                    return draft.leaveCounted();
+                default:
+                    return compileOne(word);
+            }
+        }
+
+        /** Does an immediate core word that opens and closes nothing, for the word that is being made. */
+        private int compileOne(char word) {
+            switch (word) {
                 case 'i':
                     return draft.emit('w', 'i');
                 case 'x':
@@ -1186,10 +1201,8 @@ public final class WordFoundry {
                     return first.holds(1) ? draft.emit('n', first.take()) : STACK_SHORT;
                 case 'P':
                     return postpone();
-                case ';':
-                    return finish();
                 default:
-                    return draft.structure(word);
+                    return finish();
             }
         }
 
@@ -1226,10 +1239,11 @@ public final class WordFoundry {
             if (draft.markRows > 0) {
                 return MARKS_DIFFER;
             }
-            int fault = dictionary.addWord(draft);
+            int fault = dictionary.add(':', draft.name, draft.vocabulary, 0);
             if (fault != FINE) {
                 return fault;
             }
+            dictionary.takeOps(draft);
             draft.drop();
             compiling = false;
             return FINE;
@@ -1313,6 +1327,10 @@ public final class WordFoundry {
             if (machine.compiling) {
                 return machine.draft.emit('w', core);
             }
+            return doCore(core);
+        }
+
+        private int doCore(char core) {
             return core == 'e' || core == 'C' ? beginTaken(core == 'C') : machine.core(core);
         }
 
@@ -1355,15 +1373,19 @@ public final class WordFoundry {
                 case 'v':
                     fault = machine.giveDoing(code, place + 1);
                     return fault != FINE ? fault : end();
-                default:
-                    if (kind == 'w' && (number == 'e' || number == 'C')) {
-                        return beginTaken(number == 'C');
-                    }
-                    fault = machine.doOp(kind, number);
-                    if (machine.target != NONE) {
-                        places[frame] = machine.target;
-                    }
+                case 'w':
+                    return doCore((char) number);
+                case 'M':
+                    return machine.immediate((char) number);
+                case 'j':
+                case 'z':
+                case 'L':
+                case 'l':
+                    fault = machine.jump(kind, number, place + 1);
+                    places[frame] = machine.target;
                     return fault;
+                default:
+                    return machine.doOp(kind, number);
             }
         }
 
@@ -1371,6 +1393,7 @@ public final class WordFoundry {
         private int begin(int entry) {
             Dictionary dictionary = machine.dictionary;
             int next = entry;
+            int fault;
             for (int turn = 0; turn <= LEVELS; turn++) {
                 if (!dictionary.has(next)) {
                     return NOT_FOUND;
@@ -1379,7 +1402,11 @@ public final class WordFoundry {
                     case ':':
                         return openFrame(next, next, 0);
                     case 'c':
-                        return beginCreated(next);
+                        fault = machine.first.put(dictionary.values[next]);
+                        if (fault != FINE || dictionary.doingEntries[next] == NONE) {
+                            return fault;
+                        }
+                        return openFrame(next, dictionary.doingEntries[next], dictionary.doingStarts[next]);
                     case 'K':
                         return machine.first.put(dictionary.values[next]);
                     case 'm':
@@ -1388,7 +1415,7 @@ public final class WordFoundry {
                         if (!dictionary.has(dictionary.values[next])) {
                             return NOT_FOUND;
                         }
-                        int fault = openFrame(next, NONE, 0);
+                        fault = openFrame(next, NONE, 0);
                         if (fault != FINE) {
                             return fault;
                         }
@@ -1396,14 +1423,6 @@ public final class WordFoundry {
                 }
             }
             return TOO_DEEP;
-        }
-
-        private int beginCreated(int entry) {
-            int fault = machine.first.put(machine.dictionary.values[entry]);
-            if (fault != FINE || machine.dictionary.doingEntries[entry] == NONE) {
-                return fault;
-            }
-            return openFrame(entry, machine.dictionary.doingEntries[entry], machine.dictionary.doingStarts[entry]);
         }
 
         private int openFrame(int entry, int code, int place) {
@@ -1524,23 +1543,29 @@ public final class WordFoundry {
                     fault = machine.giveDoing(code, place);
                     return fault != FINE ? fault : machine.close();
                 }
-                fault = runOp(kind, kind == 'X' ? code : number, level + 1);
-                place = machine.target == NONE ? place : machine.target;
+                if (kind == 'j' || kind == 'z' || kind == 'L' || kind == 'l') {
+                    fault = machine.jump(kind, number, place);
+                    place = machine.target;
+                } else {
+                    fault = runOp(kind, kind == 'X' ? code : number, level + 1);
+                }
             }
             return fault != FINE ? fault : machine.close();
         }
 
         private int runOp(char kind, int number, int level) {
-            int fault;
-            if (kind == 'c' || kind == 'X') {
-                fault = runEntry(number, level);
-            } else if (kind == 'w' && (number == 'e' || number == 'C')) {
-                fault = runTaken(number == 'C', level);
-            } else {
-                return machine.doOp(kind, number);
+            switch (kind) {
+                case 'c':
+                case 'X':
+                    return runEntry(number, level);
+                case 'w':
+                    boolean runs = number == 'e' || number == 'C';
+                    return runs ? runTaken(number == 'C', level) : machine.core((char) number);
+                case 'M':
+                    return machine.immediate((char) number);
+                default:
+                    return machine.doOp(kind, number);
             }
-            machine.target = NONE;
-            return fault;
         }
 
         private int runTaken(boolean caught, int level) {
@@ -1610,7 +1635,9 @@ public final class WordFoundry {
             opCount = dictionary.opCounts[code];
             need = 0;
             aheadCount = 0;
-            Arrays.fill(reached, false);
+            for (int place = 0; place <= OPS; place++) {
+                reached[place] = false;
+            }
             boolean even = reach(start, height);
             for (int turn = 0; turn <= OPS && even && aheadCount > 0; turn++) {
                 aheadCount--;
@@ -1682,31 +1709,25 @@ public final class WordFoundry {
         }
     }
 
-    /** Runs an entry in both ways, each on a copy, and compares what comes of it. */
+    /** What entries are run with in both ways, each on a copy, to compare what comes of it. */
     private static final class SoundCheck {
         private final Machine framed = new Machine(CHECK_STEPS);
         private final FrameRunner frames = new FrameRunner(framed);
         private final Machine recursed = new Machine(CHECK_STEPS);
         private final RecursiveRunner recursion = new RecursiveRunner(recursed);
 
-        private boolean holds(Machine source, int entry, Effects effects) {
+        private void prepare(Machine source) {
             framed.copyFrom(source);
             frames.abandon();
             recursed.copyFrom(source);
-            int fault = frames.drive(frames.begin(entry));
-            int recursionFault = recursion.runEntry(entry, 0);
-            if (fault != recursionFault) {
-                return false;
-            }
+        }
+
+        private boolean agrees(int fault, int recursionFault) {
             if (fault != FINE) {
                 framed.abandon();
                 recursed.abandon();
             }
-            if (!framed.isLike(recursed)) {
-                return false;
-            }
-            return fault != FINE || !effects.known[entry]
-                    || framed.first.size - source.first.size == effects.gives[entry] - effects.needs[entry];
+            return fault == recursionFault && framed.isLike(recursed);
         }
     }
 }
