@@ -602,8 +602,6 @@ public final class WordFoundry {
 
         private void drop() {
             making = false;
-            opCount = 0;
-            markRows = 0;
         }
 
         private int emit(char kind, int number) {
@@ -615,7 +613,6 @@ public final class WordFoundry {
             }
             opKinds[opCount] = kind;
             opNumbers[opCount] = number;
-            owners[opCount] = NONE;
             opCount++;
             return FINE;
         }
@@ -1612,23 +1609,16 @@ public final class WordFoundry {
         }
 
         private boolean measure(int entry) {
-            switch (dictionary.kinds[entry]) {
-                case ':':
-                    return follow(entry, entry, 0, 0);
-                case 'c':
-                    if (dictionary.has(dictionary.doingEntries[entry])) {
-                        return follow(entry, dictionary.doingEntries[entry], dictionary.doingStarts[entry], 1);
-                    }
-                    needs[entry] = 0;
-                    gives[entry] = 1;
-                    return true;
-                case 'K':
-                    needs[entry] = 0;
-                    gives[entry] = 1;
-                    return true;
-                default:
-                    return false;
+            int kind = dictionary.kinds[entry];
+            if (kind == ':') {
+                return follow(entry, entry, 0, 0);
             }
+            if (kind == 'c' && dictionary.has(dictionary.doingEntries[entry])) {
+                return follow(entry, dictionary.doingEntries[entry], dictionary.doingStarts[entry], 1);
+            }
+            needs[entry] = 0;
+            gives[entry] = 1;
+            return kind == 'c' || kind == 'K';
         }
 
         private boolean follow(int entry, int code, int start, int height) {

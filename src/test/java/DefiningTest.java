@@ -80,6 +80,10 @@ public final class DefiningTest {
         BENCH.same("X in a doing part runs the word itself", Bench.outs(x), "4 0 7");
         BENCH.same("entries", x.entries(), 3);
         BENCH.same("the name of the latest", x.nameOf(2), 2);
+        x = Bench.told(": $0 c v p ;", "$0 $1", "1 2 3 4 5 6 7 8 9 10 11 12 13 14 15 16 17 18 19 20",
+            "1 2 3 4 5 6 7 8 9 10 11 12 13 14 15 16 17 18 19 20");
+        BENCH.same("a full stack", x.depth(), 40);
+        BENCH.breaks(x, "$1", -3, "");
         x = Bench.told(": $0 c v 5 . x 6 . ;", "$0 $1 $1 $1");
         BENCH.same("x in a doing part", Bench.outs(x), "5 5");
     }
@@ -297,6 +301,8 @@ public final class DefiningTest {
         BENCH.breaks(x, "$0", -13, "");
         x = Bench.told("f $0 m $1 ' $1 k $0 $0");
         BENCH.same("the marker itself is gone", x.entries(), 1);
+        BENCH.breaks(x, "$0", -13, "");
+        BENCH.leaves(x, "7 K $3", "");
         BENCH.breaks(x, "$0", -13, "");
     }
 }

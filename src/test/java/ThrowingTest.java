@@ -129,6 +129,10 @@ public final class ThrowingTest {
         BENCH.leaves(x, "29 $0", "0 -13");
         x = Bench.told("5 K $1 : $0 d ? 1 - X x ~ ' $1 e ;");
         BENCH.leaves(x, "29 $0", "0 5");
+        x = Bench.told("3 a c $1 : $0 d ? 1 - X x ~ $1 ;");
+        BENCH.leaves(x, "29 $0", "0 3");
+        x = Bench.told("f $1 : $0 d ? 1 - X x ~ $1 ;");
+        BENCH.breaks(x, "29 $0", -13, "1 ".repeat(30).trim());
         x = Bench.told(": $1 5 ; : $0 d ? 1 - X x ~ ' $1 C ;");
         BENCH.leaves(x, "29 $0", "0 -5");
         BENCH.leaves(x, "p p 28 $0", "0 5 0");
@@ -168,6 +172,7 @@ public final class ThrowingTest {
         WordFoundry x = Bench.told(": $0 b 0 u ; : $1 ' $0 C 7 . ; : $2 -90 t ;");
         BENCH.breaks(x, "$1", -90, "");
         BENCH.breaks(x, "' $0 C", -90, "");
+        BENCH.breaks(x, "0 0 /", -10, "");
         BENCH.same("nothing goes on", x.outs(), 0);
         BENCH.leaves(x, "' $2 C", "-90");
         BENCH.leaves(x, "p 5", "5");
