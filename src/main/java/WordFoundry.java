@@ -820,6 +820,11 @@ public final class WordFoundry {
             return FINE;
         }
 
+        /** How many numbers came to the second stack since the word that is running began. */
+        private int ownOnSecond() {
+            return level > 0 && level <= LEVELS ? second.size - bases[level - 1] : second.size;
+        }
+
         private void keepStacks() {
             first.keep(level);
             second.keep(level);
@@ -908,8 +913,8 @@ public final class WordFoundry {
         }
 
         private int countOn(int place) {
-            if (!second.holds(2)) {
-                return STACK_SHORT;
+            if (ownOnSecond() < 2) {
+                return NONE_OF_ITS_OWN;
             }
             int index = second.peek(0) + 1;
             if (index == second.peek(1)) {
@@ -922,8 +927,8 @@ public final class WordFoundry {
         }
 
         private int leaveCounting(int place) {
-            if (!second.holds(2)) {
-                return STACK_SHORT;
+            if (ownOnSecond() < 2) {
+                return NONE_OF_ITS_OWN;
             }
             second.drop(2);
             target = place;
@@ -1029,8 +1034,7 @@ public final class WordFoundry {
                 case '{':
                     return second.put(first.take());
                 default:
-                    int base = level > 0 && level <= LEVELS ? bases[level - 1] : 0;
-                    if (second.size <= base) {
+                    if (ownOnSecond() < 1) {
                         return NONE_OF_ITS_OWN;
                     }
                     int n = second.peek(0);

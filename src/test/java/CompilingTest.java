@@ -98,8 +98,10 @@ public final class CompilingTest {
         BENCH.breaks(x, "3 $0", -4, "0");
         x = Bench.told(": $0 D 2 0 D i . L i . L ;", "7 5 $0");
         BENCH.same("nested", Bench.outs(x), "0 1 5 0 1 6");
-        x = Bench.told(": $0 D } p } p L ;", ": $1 D } p i . p 9 { L ;", ": $2 i ;");
-        BENCH.breaks(x, "7 5 $0", -4, "0");
+        x = Bench.told(": $0 D } p } p L ;", ": $1 D } p L ;", ": $2 i ;", "1 { 2 {");
+        BENCH.breaks(x, "7 5 $0", -6, "0");
+        Bench.enter(x, "1 { 2 {");
+        BENCH.breaks(x, "7 5 $1", -6, "1");
         BENCH.breaks(x, "7 5 { $2", -6, "2");
         StringBuilder full = new StringBuilder();
         for (int i = 0; i < 19; i++) {
@@ -125,7 +127,9 @@ public final class CompilingTest {
         Bench.enter(x, ": $3 l");
         BENCH.same("l without a D", x.error(), -22);
         Bench.enter(x, ": $3 D } p } p l L ;");
-        BENCH.breaks(x, "2 1 $3", -4, "3");
+        BENCH.breaks(x, "2 1 $3", -6, "3");
+        Bench.enter(x, "1 { 2 {");
+        BENCH.breaks(x, "2 1 $3", -6, "3");
     }
 
     private static void endingAndSelf() {

@@ -317,7 +317,7 @@ final class PlainModel {
                 pushSecond(index);
                 return next;
             case 'L':
-                demand(second.size() >= 2, -4);
+                demand(second.size() - base() >= 2, -6);
                 int one = popSecond() + 1;
                 int limit = popSecond();
                 if (one == limit) {
@@ -327,7 +327,7 @@ final class PlainModel {
                 second.add(one);
                 return op.number;
             case 'l':
-                demand(second.size() >= 2, -4);
+                demand(second.size() - base() >= 2, -6);
                 popSecond();
                 popSecond();
                 return op.number;
@@ -346,6 +346,10 @@ final class PlainModel {
             default:
                 throw new IllegalStateException("an op of the kind " + op.kind);
         }
+    }
+
+    private int base() {
+        return frames.isEmpty() ? 0 : frames.get(frames.size() - 1).base;
     }
 
     private void forget(Entry marker) {
@@ -404,7 +408,7 @@ final class PlainModel {
     }
 
     private void doMemory(char core) {
-        int base = frames.isEmpty() ? 0 : frames.get(frames.size() - 1).base;
+        int base = base();
         switch (core) {
             case '.':
                 outs.add(pop());
