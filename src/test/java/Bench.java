@@ -2,8 +2,11 @@ import java.util.NoSuchElementException;
 
 /** What the tests share: lines told as texts, and answers compared with those that are due. */
 final class Bench {
+    private static final int MOST_WORDS = 40;
+
     private int passed = 0;
     private int failed = 0;
+    private String sentence = "";
 
     /** A call that is expected to throw. */
     interface Call {
@@ -32,6 +35,24 @@ final class Bench {
     static char enter(WordFoundry x, String text) {
         put(x, text);
         return x.enter();
+    }
+
+    /** A text once more and once more, with blanks between. */
+    static String times(int count, String text) {
+        StringBuilder all = new StringBuilder();
+        for (int i = 0; i < count; i++) {
+            all.append(i == 0 ? "" : " ").append(text);
+        }
+        return all.toString();
+    }
+
+    /** Tells a text so often as is told, in as many lines as that needs. */
+    static void enterTimes(WordFoundry x, int count, String text) {
+        int least = text.trim().split("\\s+").length;
+        int most = MOST_WORDS / least;
+        for (int left = count; left > 0; left -= most) {
+            enter(x, times(Math.min(left, most), text));
+        }
     }
 
     /** A new system that was told the lines. */
@@ -82,6 +103,11 @@ final class Bench {
             text.append(i == 0 ? "" : " ").append(x.traceAt(i));
         }
         return text.toString();
+    }
+
+    /** The sentence of the document to which the comparisons belong that follow. */
+    void about(String told) {
+        sentence = told;
     }
 
     void same(String what, long got, long due) {
@@ -143,7 +169,7 @@ final class Bench {
             passed++;
         } else {
             failed++;
-            System.out.println("  " + text);
+            System.out.println("  " + (sentence.isEmpty() ? "" : "[" + sentence + "] ") + text);
         }
     }
 

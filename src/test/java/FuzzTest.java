@@ -1,6 +1,9 @@
 import java.util.Random;
 
-/** All promises: random lines, told to the class and to the plain model, which must answer alike. */
+/**
+ * All promises: random lines, told to the class and to the plain model, which must answer alike. All is asked
+ * behind each line, far more than the 512 calls of the document; the class does not count them.
+ */
 public final class FuzzTest {
     private static final int RUNS = 1500;
     private static final int LINES = 24;

@@ -12,7 +12,7 @@ public final class WildCallsTest {
         for (int seed = 0; seed < 400; seed++) {
             Random random = new Random(seed);
             WordFoundry x = new WordFoundry();
-            for (int call = 0; call < 512; call++) {
+            for (int call = 0; call < 360; call++) {
                 one(x, random);
             }
         }
