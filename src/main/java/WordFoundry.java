@@ -264,7 +264,7 @@ public final class WordFoundry {
         if (!effects.known[entry]) {
             throw new UnsupportedOperationException("the entry has no effect");
         }
-        return (int) (100 * effects.needs[entry] + effects.gives[entry]);
+        return effects.told(entry);
     }
 
     public boolean isMaking() {
@@ -315,7 +315,7 @@ public final class WordFoundry {
     /** Whether the first stack is as much higher behind a checked run as the effect of its entry tells. */
     private boolean grewAsTold(int entry) {
         int grown = check.framed.first.size - machine.first.size;
-        return !effects.known[entry] || grown == effects.gives[entry] - effects.needs[entry];
+        return !effects.known[entry] || effects.tellsGrowth(entry, grown);
     }
 
     /** The words of the line, and the place up to which they were read. */
@@ -1588,22 +1588,112 @@ public final class WordFoundry {
         }
     }
 
+    /** Whole numbers as large as heights become, for which a long is too small: a row of limbs each, lowest first. */
+    private static final class Counts {
+        /** An entry of 40 ops needs or gives at most some 80 times what others below do; 80 to the 30 has 190 bits. */
+        private static final int LIMBS = 8;
+        private static final long LIMB = 0xFFFFFFFFL;
+        private final int[] limbs = new int[Effects.ROWS * LIMBS];
+
+        private void set(int row, int n) {
+            Arrays.fill(limbs, row * LIMBS, (row + 1) * LIMBS, n < 0 ? -1 : 0);
+            limbs[row * LIMBS] = n;
+        }
+
+        private int lowest(int row) {
+            return limbs[row * LIMBS];
+        }
+
+        private void copy(int row, int from) {
+            System.arraycopy(limbs, from * LIMBS, limbs, row * LIMBS, LIMBS);
+        }
+
+        private void add(int row, int added) {
+            long carry = 0;
+            for (int i = 0; i < LIMBS; i++) {
+                carry += (limbs[row * LIMBS + i] & LIMB) + (limbs[added * LIMBS + i] & LIMB);
+                limbs[row * LIMBS + i] = (int) carry;
+                carry >>= 32;
+            }
+        }
+
+        private void subtract(int row, int subtracted) {
+            long carry = 0;
+            for (int i = 0; i < LIMBS; i++) {
+                carry += (limbs[row * LIMBS + i] & LIMB) - (limbs[subtracted * LIMBS + i] & LIMB);
+                limbs[row * LIMBS + i] = (int) carry;
+                carry >>= 32;
+            }
+        }
+
+        private boolean isSame(int row, int other) {
+            for (int i = 0; i < LIMBS; i++) {
+                if (limbs[row * LIMBS + i] != limbs[other * LIMBS + i]) {
+                    return false;
+                }
+            }
+            return true;
+        }
+
+        private boolean isLess(int row, int other) {
+            int highest = limbs[(row + 1) * LIMBS - 1];
+            int otherHighest = limbs[(other + 1) * LIMBS - 1];
+            if (highest != otherHighest) {
+                return highest < otherHighest;
+            }
+            for (int i = LIMBS - 2; i >= 0; i--) {
+                long limb = limbs[row * LIMBS + i] & LIMB;
+                long otherLimb = limbs[other * LIMBS + i] & LIMB;
+                if (limb != otherLimb) {
+                    return limb < otherLimb;
+                }
+            }
+            return false;
+        }
+    }
+
     /** Infers what entries need and give; entries lead to lower ones alone, so these are measured first. */
     private static final class Effects {
+        /** The first rows of the counts tell for each entry what it needs, the next ones what it gives. */
+        private static final int NEEDED = 0;
+        private static final int GIVEN = NEEDED + ENTRIES;
+        /** The height with which a way came to each op; the end stands behind the last one. */
+        private static final int HEIGHTS = GIVEN + ENTRIES;
+        /** The numbers 0 to 3: no op but one that runs an entry takes or gives more. */
+        private static final int FEW = HEIGHTS + OPS + 1;
+        /** What is needed so far, and the height behind the op that is passed. */
+        private static final int NEED = FEW + 4;
+        private static final int NEXT = NEED + 1;
+        private static final int SPARE = NEXT + 1;
+        private static final int ROWS = SPARE + 1;
+
         private final Dictionary dictionary;
         private final boolean[] known = new boolean[ENTRIES];
-        private final long[] needs = new long[ENTRIES];
-        private final long[] gives = new long[ENTRIES];
-        /** The height with which a way came to each op; the end stands behind the last one. */
-        private final long[] heights = new long[OPS + 1];
+        private final Counts counts = new Counts();
         private final boolean[] reached = new boolean[OPS + 1];
         private final int[] ahead = new int[OPS + 1];
         private int aheadCount;
         private int opCount;
-        private long need;
+        /** The rows of what the op that is passed takes and gives. */
+        private int takes;
+        private int gives;
 
         private Effects(Dictionary measured) {
             dictionary = measured;
+            for (int n = 0; n < NEED - FEW; n++) {
+                counts.set(FEW + n, n);
+            }
+        }
+
+        /** The answer that an int has room for; it wraps if the effect is larger. */
+        private int told(int entry) {
+            return 100 * counts.lowest(NEEDED + entry) + counts.lowest(GIVEN + entry);
+        }
+
+        private boolean tellsGrowth(int entry, int grown) {
+            counts.set(SPARE, grown);
+            counts.add(SPARE, NEEDED + entry);
+            return counts.isSame(SPARE, GIVEN + entry);
         }
 
         private void measureThrough(int last) {
@@ -1620,38 +1710,41 @@ public final class WordFoundry {
             if (kind == 'c' && dictionary.has(dictionary.doingEntries[entry])) {
                 return follow(entry, dictionary.doingEntries[entry], dictionary.doingStarts[entry], 1);
             }
-            needs[entry] = 0;
-            gives[entry] = 1;
+            counts.copy(NEEDED + entry, FEW);
+            counts.copy(GIVEN + entry, FEW + 1);
             return kind == 'c' || kind == 'K';
         }
 
-        private boolean follow(int entry, int code, int start, int height) {
+        /** Follows all ways through the ops of the entry code from start on, where the height is few. */
+        private boolean follow(int entry, int code, int start, int few) {
             opCount = dictionary.opCounts[code];
-            need = 0;
             aheadCount = 0;
             for (int place = 0; place <= OPS; place++) {
                 reached[place] = false;
             }
-            boolean even = reach(start, height);
+            counts.copy(NEED, FEW);
+            counts.copy(NEXT, FEW + few);
+            boolean even = reach(start);
             for (int turn = 0; turn <= OPS && even && aheadCount > 0; turn++) {
                 aheadCount--;
                 even = pass(entry, code, ahead[aheadCount]);
             }
-            needs[entry] = need;
-            gives[entry] = need + heights[opCount];
+            counts.copy(NEEDED + entry, NEED);
+            counts.copy(GIVEN + entry, NEED);
+            counts.add(GIVEN + entry, HEIGHTS + opCount);
             return even && reached[opCount];
         }
 
-        /** Comes to an op, or the end, with a height; false if a way came there with another one. */
-        private boolean reach(int place, long height) {
+        /** Comes to an op, or the end, with the next height; false if a way came there with another one. */
+        private boolean reach(int place) {
             if (place < 0 || place > opCount) {
                 return false;
             }
             if (reached[place]) {
-                return heights[place] == height;
+                return counts.isSame(HEIGHTS + place, NEXT);
             }
             reached[place] = true;
-            heights[place] = height;
+            counts.copy(HEIGHTS + place, NEXT);
             if (place < opCount && aheadCount <= OPS) {
                 ahead[aheadCount] = place;
                 aheadCount++;
@@ -1661,45 +1754,80 @@ public final class WordFoundry {
 
         /** Passes an op; false if it has no effect, or leads where the heights differ. */
         private boolean pass(int entry, int code, int place) {
+            char kind = dictionary.opKind(code, place);
             int number = dictionary.opValue(code, place);
-            switch (dictionary.opKind(code, place)) {
-                case 'n':
-                    return change(place, 0, 1);
-                case 'w':
-                    return passCore(place, (char) number);
-                case 'c':
-                    return number >= 0 && number < entry && known[number]
-                            && change(place, needs[number], gives[number]);
-                case 'D':
-                    return change(place, 2, 0);
-                case 'z':
-                    return change(place, 1, 0) && reach(number, heights[place] - 1);
-                case 'L':
-                    return change(place, 0, 0) && reach(number, heights[place]);
+            if (!weigh(entry, kind, number)) {
+                return false;
+            }
+            change(HEIGHTS + place);
+            switch (kind) {
                 case 'j':
                 case 'l':
-                    return reach(number, heights[place]);
+                    return reach(number);
+                case 'z':
+                case 'L':
+                    return reach(place + 1) && reach(number);
                 case 'x':
-                    return reach(opCount, heights[place]);
+                    return reach(opCount);
+                default:
+                    return reach(place + 1);
+            }
+        }
+
+        /** Tells what an op takes and gives; false if it has no effect. */
+        private boolean weigh(int entry, char kind, int number) {
+            takes = FEW;
+            gives = FEW;
+            switch (kind) {
+                case 'n':
+                    gives = FEW + 1;
+                    return true;
+                case 'w':
+                    return weighCore((char) number);
+                case 'c':
+                    takes = NEEDED + number;
+                    gives = GIVEN + number;
+                    return number >= 0 && number < entry && known[number];
+                case 'z':
+                    takes = FEW + 1;
+                    return true;
+                case 'D':
+                    takes = FEW + 2;
+                    return true;
+                case 'j':
+                case 'L':
+                case 'l':
+                case 'x':
+                    return true;
                 default:
                     return false;
             }
         }
 
-        private boolean passCore(int place, char word) {
+        private boolean weighCore(char word) {
             if (word == 'i') {
-                return change(place, 0, 1);
+                gives = FEW + 1;
+                return true;
             }
             int listed = PLAIN.indexOf(word);
             if (listed < 0 || GIVES.charAt(listed) == 'x') {
                 return false;
             }
-            return change(place, NEEDS.charAt(listed) - '0', GIVES.charAt(listed) - '0');
+            takes = FEW + NEEDS.charAt(listed) - '0';
+            gives = FEW + GIVES.charAt(listed) - '0';
+            return true;
         }
 
-        private boolean change(int place, long taken, long given) {
-            need = Math.max(need, taken - heights[place]);
-            return reach(place + 1, heights[place] - taken + given);
+        /** The need becomes what is taken from below the bottom, if that is more; then comes the next height. */
+        private void change(int height) {
+            counts.copy(SPARE, takes);
+            counts.subtract(SPARE, height);
+            if (counts.isLess(NEED, SPARE)) {
+                counts.copy(NEED, SPARE);
+            }
+            counts.copy(NEXT, height);
+            counts.subtract(NEXT, takes);
+            counts.add(NEXT, gives);
         }
     }
 

@@ -356,11 +356,11 @@ public final class FuzzTest {
         return difference;
     }
 
-    private int effectOf(int entry) {
+    private long effectOf(int entry) {
         try {
             return system.effect(entry);
         } catch (UnsupportedOperationException e) {
-            return -1;
+            return PlainModel.NO_EFFECT;
         }
     }
 

@@ -1,3 +1,4 @@
+import java.math.BigInteger;
 import java.util.ArrayList;
 import java.util.HashMap;
 import java.util.List;
@@ -9,6 +10,7 @@ import java.util.Map;
  */
 final class PlainModel {
     static final String IMMEDIATE = "?~|buwgDLliXxvT['P;";
+    static final long NO_EFFECT = Long.MIN_VALUE;
     private static final String NEEDS =
             "d1 p1 s2 o2 r3 +2 -2 *2 /2 %2 <2 =2 .1 {1 a1 ,1 @1 #2 e1 t1 C1 k1 W1 O1 K1";
 
@@ -645,55 +647,59 @@ final class PlainModel {
         }
     }
 
-    /** The effect of an entry, or -1. */
-    int effect(Entry entry) {
-        long[] found = effect(entry, new HashMap<>());
-        return found == null ? -1 : (int) (100 * found[0] + found[1]);
+    /** The effect of an entry, wrapped to an int, or NO_EFFECT. */
+    long effect(Entry entry) {
+        BigInteger[] found = effect(entry, new HashMap<>());
+        return found == null ? NO_EFFECT : found[0].multiply(BigInteger.valueOf(100)).add(found[1]).intValue();
     }
 
-    private long[] effect(Entry entry, Map<Entry, long[]> known) {
+    private BigInteger[] effect(Entry entry, Map<Entry, BigInteger[]> known) {
         if (known.containsKey(entry)) {
             return known.get(entry);
         }
-        long[] found = null;
+        BigInteger[] found = null;
         if (entry.kind == 'K' || entry.kind == 'c' && entry.definer == null) {
-            found = new long[] {0, 1};
+            found = few(0, 1);
         } else if (entry.kind == 'c') {
-            found = ways(entry.definer, entry.doingStart, 1, known);
+            found = ways(entry.definer, entry.doingStart, BigInteger.ONE, known);
         } else if (entry.kind == ':') {
-            found = ways(entry, 0, 0, known);
+            found = ways(entry, 0, BigInteger.ZERO, known);
         }
         known.put(entry, found);
         return found;
     }
 
+    private static BigInteger[] few(int taken, int given) {
+        return new BigInteger[] {BigInteger.valueOf(taken), BigInteger.valueOf(given)};
+    }
+
     /** Goes all ways through the ops until nothing is new; needs and gives, or null. */
-    private long[] ways(Entry body, int start, long height, Map<Entry, long[]> known) {
-        Long[] heights = new Long[body.ops.size() + 1];
+    private BigInteger[] ways(Entry body, int start, BigInteger height, Map<Entry, BigInteger[]> known) {
+        BigInteger[] heights = new BigInteger[body.ops.size() + 1];
         heights[start] = height;
-        long need = 0;
+        BigInteger need = BigInteger.ZERO;
         for (int round = 0; round <= body.ops.size(); round++) {
             for (int at = 0; at < body.ops.size(); at++) {
                 if (heights[at] == null) {
                     continue;
                 }
                 Op op = body.ops.get(at);
-                long[] change = change(op, known);
+                BigInteger[] change = change(op, known);
                 if (change == null) {
                     return null;
                 }
-                need = Math.max(need, change[0] - heights[at]);
-                long then = heights[at] - change[0] + change[1];
+                need = need.max(change[0].subtract(heights[at]));
+                BigInteger then = heights[at].subtract(change[0]).add(change[1]);
                 for (int next : nexts(op, at, body.ops.size())) {
-                    if (heights[next] != null && heights[next] != then) {
+                    if (heights[next] != null && !heights[next].equals(then)) {
                         return null;
                     }
                     heights[next] = then;
                 }
             }
         }
-        Long end = heights[body.ops.size()];
-        return end == null ? null : new long[] {need, need + end};
+        BigInteger end = heights[body.ops.size()];
+        return end == null ? null : new BigInteger[] {need, need.add(end)};
     }
 
     private static int[] nexts(Op op, int at, int end) {
@@ -711,21 +717,21 @@ final class PlainModel {
         }
     }
 
-    private long[] change(Op op, Map<Entry, long[]> known) {
+    private BigInteger[] change(Op op, Map<Entry, BigInteger[]> known) {
         switch (op.kind) {
             case 'n':
-                return new long[] {0, 1};
+                return few(0, 1);
             case 'c':
                 return effect(entries.get(op.number), known);
             case 'z':
-                return new long[] {1, 0};
+                return few(1, 0);
             case 'D':
-                return new long[] {2, 0};
+                return few(2, 0);
             case 'j':
             case 'l':
             case 'L':
             case 'x':
-                return new long[] {0, 0};
+                return few(0, 0);
             case 'w':
                 return coreChange((char) op.number);
             default:
@@ -733,12 +739,12 @@ final class PlainModel {
         }
     }
 
-    private static long[] coreChange(char core) {
+    private static BigInteger[] coreChange(char core) {
         String[] changes = {"d12", "p10", "s22", "o23", "r33", "+21", "-21", "*21", "/21", "%21", "<21", "=21", ".10",
             "{10", "}01", "_01", "i01", "h01", "a10", ",10", "@11", "#20", "t10", "I00", "W10", "O10"};
         for (String change : changes) {
             if (change.charAt(0) == core) {
-                return new long[] {change.charAt(1) - '0', change.charAt(2) - '0'};
+                return few(change.charAt(1) - '0', change.charAt(2) - '0');
             }
         }
         return null;
