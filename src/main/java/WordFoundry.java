@@ -1596,8 +1596,10 @@ public final class WordFoundry {
         private final int[] limbs = new int[Effects.ROWS * LIMBS];
 
         private void set(int row, int n) {
-            Arrays.fill(limbs, row * LIMBS, (row + 1) * LIMBS, n < 0 ? -1 : 0);
             limbs[row * LIMBS] = n;
+            for (int i = 1; i < LIMBS; i++) {
+                limbs[row * LIMBS + i] = n < 0 ? -1 : 0;
+            }
         }
 
         private int lowest(int row) {
